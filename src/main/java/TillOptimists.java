@@ -322,11 +322,7 @@ public final class TillOptimists {
             remembered = new int[MOST_DRAWERS];
             rememberedSeals = new int[MOST_DRAWERS];
             own = new int[MOST_DRAWERS];
-            for (int d = 0; d < MOST_DRAWERS; d++) {
-                remembered[d] = NONE;
-                rememberedSeals[d] = NONE;
-                own[d] = NONE;
-            }
+            startOver();
         }
 
         private void beginAnew() {

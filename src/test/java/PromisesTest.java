@@ -131,12 +131,42 @@ public final class PromisesTest {
         due("clerk() on another till", x.clerk(), 0);
         toldIs(x, 0, 0, 0, 0, 0, 0, 0, 0);
         slipIs(x, 0, 5, -1, -1, -1);
+        due("clerk() of the number of one who lost", x.clerk(), 1);
+        toldIs(x, 1, 0, 0, 0, 0, 0, 0, 0);
         due("pay(7, 3)", x.pay(7, 3), 0);
         due("drawer(7, 1) counts closings from 1 again", x.drawer(7, 1), 1);
         due("till(1)", x.till(1), 8);
         due("till(1) again", x.till(1), 1);
         throwing("pay(1, 1) with one drawer", x, INDEX, t -> t.pay(1, 1));
         due("pay(0, 1) with one drawer", x.pay(0, 1), 0);
+        due("till(8) again", x.till(8), 1);
+        drawerIs(x, 0, 0, 0, 0, 0);
+        promise2EightDrawers(x);
+    }
+
+    private static void promise2EightDrawers(TillOptimists x) {
+        x.clerk();
+        x.clerk();
+        x.say(0, 2, 7, 7, 5);
+        x.say(1, 3, 7, 6, 2);
+        x.pay(7, 4);
+        due("alone on the eighth drawer", x.alone(0, 7), 9);
+        due("foresee all amounts of eight drawers", x.foresee(2, 5), 9);
+        x.turn(0);
+        x.turn(1);
+        due("clash on the eighth drawer", x.clash(0, 1), true);
+        due("no loss yet", x.count(6), 0);
+        due("advise", x.advise(), 0);
+        x.till(3);
+        due("foresee all amounts of three drawers", x.foresee(2, 5), 0);
+        x.till(8);
+        x.clerk();
+        x.clerk();
+        x.say(0, 0, 0, 0, 0);
+        x.say(1, 1, 7, 7, 0);
+        x.turn(0);
+        x.turn(1);
+        due("no clash of eight drawers", x.clash(0, 1), false);
     }
 
     private static void promise3Pay() {
@@ -706,6 +736,32 @@ public final class PromisesTest {
         x.turn(1);
         due("advise: none is left", x.advise(), -1);
         promise19FewestBeforePlace();
+        promise19ClerkZero();
+    }
+
+    private static void promise19ClerkZero() {
+        TillOptimists x = withClerks(1);
+        x.say(0, 2, 0, 0, 1);
+        due("advise: clerk 0 alone", x.advise(), 0);
+        x.clerk();
+        x.clerk();
+        x.say(1, 1, 0, 0, 1);
+        x.say(2, 0, 1, 1, 1);
+        x.turn(0);
+        x.turn(1);
+        x.turn(2);
+        due("advise: clerk 0 does not clash with itself", x.advise(), 0);
+        x.drop(0);
+        x.turn(0);
+        x.till(6);
+        x.clerk();
+        x.clerk();
+        x.say(0, 0, 0, 0, 0);
+        x.say(1, 1, 0, 0, 1);
+        x.say(1, 1, 0, 0, 1);
+        x.turn(0);
+        turns(x, 1, 2);
+        due("advise: 1 is further, but clashes with 0", x.advise(), 0);
     }
 
     private static void promise19FewestBeforePlace() {
@@ -741,6 +797,12 @@ public final class PromisesTest {
         }
         x.till(2);
         due("mean on another till", x.mean(), 0.0);
+        x.clerk();
+        x.say(0, 0, 0, 0, 0);
+        x.turn(0);
+        x.pay(0, 1);
+        x.turn(0);
+        due("mean of a single clerk", x.mean(), 1.0);
     }
 
     private static long chained(int... numbers) {
