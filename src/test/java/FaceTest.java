@@ -1,7 +1,10 @@
+import java.io.IOException;
 import java.lang.reflect.Constructor;
 import java.lang.reflect.Field;
 import java.lang.reflect.Method;
 import java.lang.reflect.Modifier;
+import java.nio.file.Files;
+import java.nio.file.Path;
 import java.util.Arrays;
 import java.util.HashSet;
 import java.util.Set;
@@ -60,6 +63,23 @@ public final class FaceTest {
         return text.toString();
     }
 
+    /** The methods as 'The public face' of the document writes them, without the names of what they take. */
+    private static Set<String> documented() {
+        Set<String> found = new TreeSet<>();
+        try {
+            for (String line : Files.readAllLines(Path.of("..", "shared", "DOC.md"))) {
+                String text = line.trim();
+                if (text.startsWith("public ") && text.endsWith(";") && !text.contains("public TillOptimists(")) {
+                    found.add(text.substring(7, text.length() - 1).replaceAll("\\b(int|long) \\w+([,)])", "$1$2")
+                        .replace(", ", ",").replace(" throws ", " ").replace("Exception,", "Exception "));
+                }
+            }
+        } catch (IOException e) {
+            must(false, "the document can be read: " + e);
+        }
+        return found;
+    }
+
     private static void checkMembers(Class<?> face) {
         Set<String> seen = new TreeSet<>();
         Set<String> names = new HashSet<>();
@@ -97,6 +117,7 @@ public final class FaceTest {
         int mods = face.getModifiers();
         must(Modifier.isPublic(mods) && Modifier.isFinal(mods), "the class is public and final");
         must(face.getSuperclass() == Object.class && face.getInterfaces().length == 0, "it extends nothing");
+        must(documented().equals(new TreeSet<>(Arrays.asList(FACE))), "the document's face is this: " + documented());
         checkMembers(face);
         System.out.println(wrong == 0 ? "the face is that of the document" : wrong + " wrong");
         if (wrong != 0) {

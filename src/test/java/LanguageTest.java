@@ -1,0 +1,127 @@
+import java.io.IOException;
+import java.lang.reflect.Field;
+import java.lang.reflect.Method;
+import java.lang.reflect.Modifier;
+import java.nio.file.Files;
+import java.nio.file.Path;
+import java.util.ArrayList;
+import java.util.Arrays;
+import java.util.List;
+import java.util.Set;
+import java.util.TreeSet;
+import java.util.regex.Matcher;
+import java.util.regex.Pattern;
+
+/** The rules of LANGUAGE.md that a look at the source and at the class can tell. */
+public final class LanguageTest {
+    private static final Path SOURCE = Path.of("src", "main", "java", "TillOptimists.java");
+    private static final int MOST_LINES = 60;
+    private static final int MOST_TAKEN = 7;
+    private static final int MOST_CLASSES = 12;
+    private static final int MOST_FIELDS = 20;
+
+    private static int wrong = 0;
+
+    private static void must(boolean holds, String rule) {
+        if (!holds) {
+            wrong++;
+            System.out.println("LANGUAGE.md, " + rule);
+        }
+    }
+
+    /** The source without its comments and without what stands in texts. */
+    private static String code() {
+        try {
+            return Files.readString(SOURCE).replaceAll("(?s)/\\*.*?\\*/", "").replaceAll("//[^\n]*", "")
+                .replaceAll("\"[^\"\n]*\"", "\"\"");
+        } catch (IOException e) {
+            must(false, "the source can be read: " + e);
+            return "";
+        }
+    }
+
+    private static Set<String> found(String code, String pattern) {
+        Set<String> all = new TreeSet<>();
+        Matcher m = Pattern.compile(pattern).matcher(code);
+        while (m.find()) {
+            all.add(m.group());
+        }
+        return all;
+    }
+
+    private static void only(String code, String pattern, String rule, String... allowed) {
+        Set<String> others = found(code, pattern);
+        others.removeAll(Arrays.asList(allowed));
+        must(others.isEmpty(), rule + ": " + others);
+    }
+
+    private static void checkWords(String code) {
+        must(found(code, "\\b(package|import)\\b").isEmpty(), "rule 1: no package and no import");
+        must(found(code, "->|::").isEmpty(), "rule 2: no lambda, no method reference");
+        must(found(code, "\\b(finally|synchronized|assert|instanceof|try|catch|native|volatile)\\b").isEmpty(),
+            "rule 6: none of these words");
+        must(found(code, "static\\s*\\{").isEmpty(), "rule 5: no static initialiser block");
+        must(found(code, "\"\"\\s*\\+|\\+\\s*\"\"").isEmpty(), "rule 10: texts are not joined by +");
+        only(code, "\\b[A-Z][a-z]\\w*", "rules 3, 4 and 6: other classes", "TillOptimists", "Clerk", "Shop", "Math",
+            "IllegalArgumentException", "IndexOutOfBoundsException", "IllegalStateException");
+        only(code, "Math\\.\\w+", "rule 4: other functions", "Math.min", "Math.max", "Math.abs");
+        only(code, "throw [^;]*", "rule 6: other throws", "throw new IllegalArgumentException(\"\")",
+            "throw new IndexOutOfBoundsException(\"\")", "throw new IllegalStateException(\"\")");
+        must(found(code, "\\bwhile\\b|for \\([^;]*;\\s*;").isEmpty(), "rule 9: each loop counts to a bound");
+    }
+
+    private static void checkLengths(String code) {
+        int begun = 0;
+        String name = "";
+        String[] lines = code.split("\n");
+        for (int i = 0; i < lines.length; i++) {
+            String line = lines[i];
+            if (line.matches("( {4}| {8})(public|private)[^;=]*\\(.*")) {
+                name = line.trim();
+                begun = i;
+            } else if (line.matches("( {4}| {8})\\}") && !name.isEmpty()) {
+                must(i - begun < MOST_LINES, "rule 11: a long method: " + name);
+                name = "";
+            }
+        }
+    }
+
+    private static List<Class<?>> classes() {
+        List<Class<?>> all = new ArrayList<>();
+        all.add(TillOptimists.class);
+        all.addAll(Arrays.asList(TillOptimists.class.getDeclaredClasses()));
+        return all;
+    }
+
+    private static boolean isPlain(Class<?> type) {
+        return type == int.class || type == long.class || type == boolean.class || type == char.class
+            || type == String.class;
+    }
+
+    private static void checkClass(Class<?> one) {
+        int fields = 0;
+        for (Field f : one.getDeclaredFields()) {
+            boolean fixed = Modifier.isStatic(f.getModifiers());
+            fields += fixed ? 0 : 1;
+            must(!fixed || (Modifier.isFinal(f.getModifiers()) && isPlain(f.getType())), "rule 5: " + f);
+        }
+        must(fields <= MOST_FIELDS, "rule 11: " + fields + " fields in " + one);
+        for (Method m : one.getDeclaredMethods()) {
+            must(m.getParameterCount() <= MOST_TAKEN, "rule 11: too many parameters: " + m);
+        }
+    }
+
+    public static void main(String[] args) {
+        String code = code();
+        checkWords(code);
+        checkLengths(code);
+        must(classes().size() <= MOST_CLASSES, "rule 11: too many classes");
+        for (Class<?> one : classes()) {
+            checkClass(one);
+        }
+        System.out.println(wrong == 0 ? "the language is kept to" : wrong + " wrong");
+        if (wrong != 0) {
+            System.exit(1);
+        }
+    }
+}
