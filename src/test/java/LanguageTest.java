@@ -71,17 +71,16 @@ public final class LanguageTest {
     }
 
     private static void checkLengths(String code) {
-        int begun = 0;
-        String name = "";
+        Pattern head = Pattern.compile("( {4}| {8})(public|private)[^;=]*\\(.*");
         String[] lines = code.split("\n");
         for (int i = 0; i < lines.length; i++) {
-            String line = lines[i];
-            if (line.matches("( {4}| {8})(public|private)[^;=]*\\(.*")) {
-                name = line.trim();
-                begun = i;
-            } else if (line.matches("( {4}| {8})\\}") && !name.isEmpty()) {
-                must(i - begun < MOST_LINES, "rule 11: a long method: " + name);
-                name = "";
+            Matcher m = head.matcher(lines[i]);
+            if (m.matches()) {
+                int end = i;
+                while (end < lines.length && !lines[end].equals(m.group(1) + "}")) {
+                    end++;
+                }
+                must(end - i < MOST_LINES, "rule 11: a long method: " + lines[i].trim());
             }
         }
     }

@@ -381,6 +381,7 @@ public final class TermsEdgesTest extends Sentences {
             for (int b : new int[] {1, 500, 999}) {
                 TillOptimists x = behindSteps(paid(b - 1, 40), step(CARRY, 0, 1, b));
                 slipIs(x, 0, 0, b - 1, 1, -1);
+                slipIs(x, 0, 1, -1, -1, -1);
                 x = behindSteps(paid(b, 40), step(CARRY, 0, 1, b));
                 slipIs(x, 0, 0, b, 1, 0);
                 slipIs(x, 0, 1, 40, 2, 40 + b);

@@ -71,6 +71,7 @@ public final class WouldBeEdgesTest extends Sentences {
             x.say(0, ADD, 0, 0, 5);
             x.say(0, CARRY, 0, 1, 100);
             turns(x, 0, turns);
+            due("alone(0, 0) behind " + turns + ", without a change", x.alone(0, 0), turns == 3 ? 10 : 5);
             x.pay(0, 95);
             due("alone(0, 0) behind " + turns, x.alone(0, 0), 0);
             due("alone(0, 1) behind " + turns, x.alone(0, 1), 100);
@@ -190,6 +191,10 @@ public final class WouldBeEdgesTest extends Sentences {
             due("foresee(49, 2)", longestRun().foresee(49, 2), 4);
             due("foresee(44, 2) at the edge of a closing", longestRun().foresee(44, 2), 4);
             due("foresee(43, 2) at the edge of a closing", longestRun().foresee(43, 2), 3);
+            TillOptimists x = longestRun();
+            x.pass(3);
+            due("foresee(50, 2), one closes in the last round", x.foresee(50, 2), 5);
+            due("foresee(49, 2), one closes in the next round", x.foresee(49, 2), 4);
         });
         holds("- what: 2 to 6 as count() has it", () -> {
             int[] behindOne = {1, 3, 1, 10116, 0};
@@ -315,10 +320,22 @@ public final class WouldBeEdgesTest extends Sentences {
             due("advise(): five, and none", x.advise(), 5);
         });
         holds("(as clash() tells it, this one as the first)", () -> {
+            due("advise(): the greater place, but clerk 0 clashes", advisedWithGreaterPlace(0, 1), 0);
+            due("advise(): the greater place, but clerk 1 clashes", advisedWithGreaterPlace(1, 0), 1);
             due("advise(): the reader of what another writes", behindAStep(on(LOOK, 0), on(PUT, 0)).advise(), 0);
             due("advise(): the reader behind the writer", behindAStep(on(PUT, 0), on(LOOK, 0)).advise(), 1);
             due("advise(): a reader who is done", advisedBehindReading(), 0);
         });
+    }
+
+    private static int advisedWithGreaterPlace(int reader, int writer) {
+        TillOptimists x = States.clerks(2);
+        x.say(reader, LOOK, 0, 0, 0);
+        x.say(writer, PUT, 0, 0, 0);
+        x.say(writer, PUT, 0, 0, 0);
+        turns(x, reader, 1);
+        turns(x, writer, 2);
+        return x.advise();
     }
 
     private static int advisedBehindReading() {
