@@ -1,4 +1,4 @@
-/** Promises 4 to 8: each sentence that names an edge by a test of its own. */
+/** Promises 4 to 8: each sentence by a test of its own. */
 public final class ClerksEdgesTest extends Sentences {
     private static final int LOOK = 0;
     private static final int PUT = 1;

@@ -7,7 +7,9 @@ import java.nio.file.Path;
 import java.util.ArrayList;
 import java.util.Arrays;
 import java.util.List;
+import java.util.Map;
 import java.util.Set;
+import java.util.TreeMap;
 import java.util.TreeSet;
 import java.util.regex.Matcher;
 import java.util.regex.Pattern;
@@ -19,6 +21,10 @@ public final class LanguageTest {
     private static final int MOST_TAKEN = 7;
     private static final int MOST_CLASSES = 12;
     private static final int MOST_FIELDS = 20;
+    private static final int MOST_DEEP = 8;
+    // Of what class that is which the source calls by these names.
+    private static final Map<String, String> OBJECTS = Map.of("now", "Shop", "trial", "Shop", "clerks", "Clerk",
+        "worker", "Clerk", "writer", "Clerk", "reader", "Clerk", "Math", "Math");
 
     private static int wrong = 0;
 
@@ -85,6 +91,64 @@ public final class LanguageTest {
         }
     }
 
+    /** The bodies of all methods, by their class and name, as Clerk.read. */
+    private static Map<String, String> bodies(String code) {
+        Pattern head = Pattern.compile("( {4}| {8})(?:public|private)[^;={]* (\\w+)\\(.*");
+        Pattern inside = Pattern.compile(" {4}private static final class (\\w+) \\{");
+        Map<String, String> found = new TreeMap<>();
+        String[] lines = code.split("\n");
+        String place = "TillOptimists";
+        for (int i = 0; i < lines.length; i++) {
+            Matcher opened = inside.matcher(lines[i]);
+            place = opened.matches() ? opened.group(1) : place;
+            Matcher m = head.matcher(lines[i]);
+            if (m.matches()) {
+                StringBuilder body = new StringBuilder(lines[i].substring(m.end(2)));
+                while (++i < lines.length && !lines[i].equals(m.group(1) + "}")) {
+                    body.append(lines[i]).append('\n');
+                }
+                must(found.put(place + "." + m.group(2), body.toString()) == null, "two methods of one name");
+            }
+        }
+        return found;
+    }
+
+    private static Set<String> called(Map<String, String> bodies, String method) {
+        Set<String> all = new TreeSet<>();
+        Matcher m = Pattern.compile("(?:(\\w+)(?:\\[\\w+\\])?\\.)?\\b([a-z]\\w*)\\(").matcher(bodies.get(method));
+        while (m.find()) {
+            String on = m.group(1) == null ? method.substring(0, method.indexOf('.')) : OBJECTS.get(m.group(1));
+            must(on != null, "nobody knows what " + m.group() + ") is called on");
+            if (on != null && bodies.containsKey(on + "." + m.group(2))) {
+                all.add(on + "." + m.group(2));
+            }
+        }
+        return all;
+    }
+
+    private static int depth(Map<String, String> bodies, String method, int above) {
+        if (above >= MOST_DEEP) {
+            must(false, "rule 11: calls are too deep at " + method);
+            return above;
+        }
+        int deepest = above + 1;
+        for (String next : called(bodies, method)) {
+            deepest = Math.max(deepest, depth(bodies, next, above + 1));
+        }
+        return deepest;
+    }
+
+    private static void checkDepth(String code) {
+        Map<String, String> bodies = bodies(code);
+        int deepest = 0;
+        for (Method m : TillOptimists.class.getDeclaredMethods()) {
+            String method = "TillOptimists." + m.getName();
+            must(bodies.containsKey(method), "the source of " + method + " can be found");
+            deepest = Math.max(deepest, bodies.containsKey(method) ? depth(bodies, method, 0) : 0);
+        }
+        must(deepest > 4, "rule 11: calls of more than " + deepest + " deep are there, but not found");
+    }
+
     private static List<Class<?>> classes() {
         List<Class<?>> all = new ArrayList<>();
         all.add(TillOptimists.class);
@@ -114,6 +178,7 @@ public final class LanguageTest {
         String code = code();
         checkWords(code);
         checkLengths(code);
+        checkDepth(code);
         must(classes().size() <= MOST_CLASSES, "rule 11: too many classes");
         for (Class<?> one : classes()) {
             checkClass(one);

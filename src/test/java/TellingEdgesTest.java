@@ -1,4 +1,4 @@
-/** Promises 9 to 15: each sentence that names an edge by a test of its own. */
+/** Promises 9 to 15: each sentence by a test of its own. */
 public final class TellingEdgesTest extends Sentences {
     private static final int LOOK = 0;
     private static final int PUT = 1;

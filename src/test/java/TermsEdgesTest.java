@@ -1,4 +1,13 @@
-/** 'What it is', 'Terms' and 'Not promised': each sentence that names an edge by a test of its own. */
+import java.io.IOException;
+import java.lang.reflect.Method;
+import java.nio.file.Files;
+import java.nio.file.Path;
+import java.util.Arrays;
+import java.util.Set;
+import java.util.regex.Matcher;
+import java.util.regex.Pattern;
+
+/** 'What it is', 'Terms' and 'Not promised': each sentence by a test of its own. */
 public final class TermsEdgesTest extends Sentences {
     private static final int LOOK = 0;
     private static final int PUT = 1;
@@ -635,19 +644,125 @@ public final class TermsEdgesTest extends Sentences {
         });
     }
 
-    private static void wordsWithoutEdges() {
-        namesNoEdge("Clerks work on drawers without locking them: each has a program, step by step, and a slip on which"
-            + " it remembers what it read and writes what it would change; in the end it closes, if nothing that it read"
-            + " has been changed meanwhile, and all that it wrote comes into the drawers at once; otherwise it has lost,"
-            + " and begins again; and it is told what is in drawers and on slips, who would lose, who would make whom"
-            + " lose, what was closed, what a clerk would do alone, how rounds go by, and who had best close first.");
-        namesNoEdge("All numbers are whole.");
-        namesNoEdge("Ahead of the calls till, pay the interface says: ---- the till.");
-        namesNoEdge("Ahead of the calls clerk, say, turn, drop, pass the interface says: ---- clerks.");
-        namesNoEdge("Ahead of the calls drawer, told, slip, step, closing, clash, count the interface says: ---- what"
+    // ---- the whole of it.
+
+    private static void story() {
+        holds("Clerks work on drawers without locking them: each has a program, step by step, and a slip on which"
+            + " it remembers what it read and writes what it would change; ", () -> {
+                TillOptimists x = twoAtOneDrawer();
+                due("the first one's step", x.turn(0), 0);
+                due("the second one's step at the same drawer", x.turn(1), 0);
+                due("pay(2, 8) while both are at work", x.pay(2, 8), 7);
+                slipIs(x, 0, 2, 7, 1, 17);
+                slipIs(x, 1, 2, 7, 1, 3);
+                due("told(0, 1)", x.told(0, 1), 1);
+                drawerIs(x, 2, 8, 2);
+            });
+        holds("in the end it closes, if nothing that it read has been changed meanwhile, and all that it wrote comes"
+            + " into the drawers at once; ", () -> {
+                TillOptimists x = twoAtOneDrawer();
+                turns(x, 1, 2);
+                drawerIs(x, 2, 7, 1);
+                drawerIs(x, 3, 0, 0);
+                due("close", x.turn(1), 1);
+                drawerIs(x, 2, 3, 2);
+                drawerIs(x, 3, 4, 2);
+            });
+        holds("otherwise it has lost, and begins again; ", () -> {
+            TillOptimists x = twoAtOneDrawer();
+            x.turn(0);
+            turns(x, 1, 3);
+            due("close behind the other one", x.turn(0), 2);
+            drawerIs(x, 2, 3, 2);
+            toldIs(x, 0, 1, 0, 0, 1, 0, 0, 0);
+            due("its step once more", x.turn(0), 0);
+            slipIs(x, 0, 2, 3, 2, 13);
+            due("close at last", x.turn(0), 1);
+            drawerIs(x, 2, 13, 3);
+        });
+        whatIsTold();
+    }
+
+    /** 7 in drawer 2; clerk 0 adds 10 there, clerk 1 carries 4 of it to drawer 3 and looks at that. */
+    private static TillOptimists twoAtOneDrawer() {
+        TillOptimists x = States.clerks(2);
+        x.pay(2, 7);
+        x.say(0, ADD, 2, 2, 10);
+        x.say(1, CARRY, 2, 3, 4);
+        x.say(1, LOOK, 3, 3, 0);
+        return x;
+    }
+
+    private static void whatIsTold() {
+        holds("and it is told what is in drawers and on slips, who would lose, who would make whom lose, what was"
+            + " closed, what a clerk would do alone, how rounds go by, and who had best close first.", () -> {
+                TillOptimists x = twoAtOneDrawer();
+                x.turn(0);
+                x.turn(1);
+                drawerIs(x, 2, 7, 1);
+                slipIs(x, 1, 3, 0, 0, 4);
+                due("clash(0, 1)", x.clash(0, 1), true);
+                due("clash(1, 0)", x.clash(1, 0), true);
+                due("advise()", x.advise(), 0);
+                x.turn(1);
+                due("advise() when clerk 1 is further", x.advise(), 1);
+                x.turn(1);
+                due("told(0, 6)", x.told(0, 6), 1);
+                due("count(6)", x.count(6), 1);
+                closingIs(x, 0, 1, 2, 7);
+                due("alone(0, 2)", x.alone(0, 2), 13);
+                due("until()", x.until(), 3);
+                due("foresee(3, 5)", x.foresee(3, 5), 17);
+            });
+        holds("All numbers are whole.", () -> {
+            int answers = 0;
+            for (Method m : TillOptimists.class.getMethods()) {
+                if (m.getDeclaringClass() == TillOptimists.class) {
+                    answers++;
+                    boolean counted = Set.of(int.class, long.class, boolean.class).contains(m.getReturnType());
+                    due(m.getName() + " answers no whole number", !counted, m.getName().equals("mean"));
+                    due(m.getName() + " takes whole numbers",
+                        Set.of(int.class).containsAll(Arrays.asList(m.getParameterTypes())), true);
+                }
+            }
+            due("methods", answers, 20);
+        });
+    }
+
+    private static void headings() {
+        heading("Ahead of the calls till, pay the interface says: ---- the till.");
+        heading("Ahead of the calls clerk, say, turn, drop, pass the interface says: ---- clerks.");
+        heading("Ahead of the calls drawer, told, slip, step, closing, clash, count the interface says: ---- what"
             + " there is.");
-        namesNoEdge("Ahead of the calls alone, until, foresee, advise, mean, digest the interface says: ---- what would"
+        heading("Ahead of the calls alone, until, foresee, advise, mean, digest the interface says: ---- what would"
             + " be.");
+    }
+
+    /** The source has these calls, and no others, between this heading and the next one. */
+    private static void heading(String words) {
+        holds(words, () -> {
+            String calls = words.substring("Ahead of the calls ".length(), words.indexOf(" the interface"));
+            String title = words.substring(words.indexOf("----"));
+            String found = "nothing";
+            for (String part : source().split("(?m)^ *// (?=----)")) {
+                if (part.startsWith(title + "\n")) {
+                    found = "";
+                    Matcher m = Pattern.compile("(?m)^    public \\w+ (\\w+)\\(").matcher(part);
+                    while (m.find()) {
+                        found += (found.isEmpty() ? "" : ", ") + m.group(1);
+                    }
+                }
+            }
+            due("the source behind \"" + title + "\"", found, calls);
+        });
+    }
+
+    private static String source() {
+        try {
+            return Files.readString(Path.of("src", "main", "java", "TillOptimists.java"));
+        } catch (IOException e) {
+            return "the source cannot be read: " + e;
+        }
     }
 
     // ---- Not promised.
@@ -681,7 +796,8 @@ public final class TermsEdgesTest extends Sentences {
         steps();
         turnsOfClerks();
         refusals();
-        wordsWithoutEdges();
+        story();
+        headings();
         in("Not promised");
         notPromised();
         end();

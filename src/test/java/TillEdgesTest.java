@@ -1,4 +1,4 @@
-/** Promises 1 to 3: each sentence that names an edge by a test of its own. */
+/** Promises 1 to 3: each sentence by a test of its own. */
 public final class TillEdgesTest extends Sentences {
     private static void newObject() {
         in("Promise 1");

@@ -2,7 +2,7 @@ import java.math.BigInteger;
 import java.util.ArrayList;
 import java.util.List;
 
-/** Promises 16 to 21: each sentence that names an edge by a test of its own. */
+/** Promises 16 to 21: each sentence by a test of its own. */
 public final class WouldBeEdgesTest extends Sentences {
     private static final int LOOK = 0;
     private static final int PUT = 1;
